@@ -35,8 +35,13 @@ public final class CompareTest {
             checkOne(check, other, 1);
         }
         checkOne(check, BASE + ";K2;S1 1", 1);
+        checkOne(check, BASE + ";Z0 0", 1);
+        checkOne(check, BASE + ";Z9 0", 1);
+        checkOne(check, BASE + ";X0 0", 1);
+        checkOne(check, BASE + ";X9 0", 1);
         checkOne(check, "K2" + BASE.substring(2), 2);
         checkOne(check, "K0;S1 1;K9;S1 1", 3);
+        checkBehindFault(check);
         checkMany(check);
         check.end();
     }
@@ -49,6 +54,15 @@ public final class CompareTest {
         PostTariff turned = Check.tariffOf(text);
         Check.read(turned, BASE);
         check.due("compare(0) of " + text, turned.compare(0), want);
+    }
+
+    /** Nothing of a faulty text stays behind for the next one. */
+    private static void checkBehindFault(Check check) {
+        PostTariff tariff = Check.tariffOf("K1;S5 6");
+        Check.read(tariff, BASE + ";");
+        Check.read(tariff, "K1;S5 6");
+        check.due("compare(0) behind a fault", tariff.compare(0), 0);
+        check.due("print() behind a fault", Check.printed(tariff), "K1;S5 6");
     }
 
     private static void checkMany(Check check) {

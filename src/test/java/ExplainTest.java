@@ -28,6 +28,9 @@ public final class ExplainTest {
         Check.read(tariff, "K1;S9 20;Z0 0;R10;X0 0;X9 0");
         check.due("a whole price", tariff.price(0, 0, 0), 20);
         check.due("rounding that adds nothing is a part", Check.explained(tariff), "0 20 0,1 0 0,2 0 0,2 0 9,3 0 10");
+        Check.read(tariff, "K2;S9 20;Z0 0;R1;X1 0;X2 5");
+        tariff.price(1, 0, 0);
+        check.due("rounding to whole 1 is a part", Check.explained(tariff), "0 20 0,1 0 0,2 0 1,2 5 2,3 0 1");
         check.end();
     }
 

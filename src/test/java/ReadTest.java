@@ -19,6 +19,7 @@ public final class ReadTest {
         test.checkLimits();
         test.checkKinds();
         test.checkWhenNumbersAreLookedAt();
+        test.checkBehindFault();
         test.checkEditions();
         test.check.end();
     }
@@ -188,6 +189,15 @@ public final class ReadTest {
         fault("K1;S1 1;K1x", 9);
         rows("K1;S1 1;Z0 0001000", 3);
         fault("K1;S1 1;R0001001", 9);
+    }
+
+    /** Nothing of a faulty text stays behind for the next one. */
+    private void checkBehindFault() {
+        String whole = TEN_EXCLUSIONS + ";Z0 0;D1 1 1;M1;F1 1;R1";
+        PostTariff tariff = new PostTariff();
+        check.due("a whole kind and a fault", Check.read(tariff, whole + ";"), -2 - whole.length());
+        check.due("the same without the fault", Check.read(tariff, whole), 22);
+        check.due("it is the first edition", tariff.compare(1), PostTariff.UNKNOWN);
     }
 
     private void checkEditions() {

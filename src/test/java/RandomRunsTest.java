@@ -1,0 +1,216 @@
+import java.util.Random;
+
+/** Runs of calls from a written seed, so always the same ones, each answer compared with the model's. */
+public final class RandomRunsTest {
+    private static final int RUNS = 20000;
+    private static final int CALLS = 60;
+    private static final int[] ODD = {-1, 0, 1, 9, 10, 11, 13, 99, 100, 1000, 1001, 100000, 100001, 9999999, 10000000,
+        Integer.MIN_VALUE, Integer.MAX_VALUE};
+
+    private final Check check = new Check("RandomRunsTest");
+    private final Random random = new Random(20261119);
+    private PostTariff tariff;
+    private Model model;
+    private int read;
+    private int faultless;
+    private int priced;
+
+    public static void main(String[] args) {
+        RandomRunsTest test = new RandomRunsTest();
+        for (int run = 0; run < RUNS; run++) {
+            test.run(run);
+        }
+        System.out.println("texts read: " + test.read + ", faultless: " + test.faultless + ", priced: " + test.priced);
+        test.check.due("enough texts are faultless", test.faultless > test.read / 5 ? 1 : 0, 1);
+        test.check.due("enough texts are faulty", test.faultless < test.read * 4 / 5 ? 1 : 0, 1);
+        test.check.due("enough prices are told", test.priced > RUNS ? 1 : 0, 1);
+        test.check.end();
+    }
+
+    private void run(int run) {
+        tariff = new PostTariff();
+        model = new Model();
+        for (int i = 0; i < 1 + random.nextInt(6); i++) {
+            makeItem();
+        }
+        if (below(20) > 0) {
+            readText("run " + run + ", first: ");
+        }
+        for (int i = 0; i < CALLS; i++) {
+            call("run " + run + ", call " + i + ": ");
+        }
+    }
+
+    private int below(int bound) {
+        return random.nextInt(bound);
+    }
+
+    private int odd(int ordinary) {
+        return below(25) == 0 ? ODD[below(ODD.length)] : ordinary;
+    }
+
+    private void call(String where) {
+        int item = odd(below(4));
+        int zone = odd(below(3));
+        long day = below(30) == 0 ? below(2) == 0 ? Long.MIN_VALUE : Long.MAX_VALUE : odd(below(8));
+        switch (below(10)) {
+            case 0:
+                readText(where);
+                break;
+            case 1:
+                check.due(where + "item", makeItem(), PostTariff.NONE);
+                break;
+            case 2:
+                int s = odd(below(4));
+                check.due(where + "service", tariff.service(item, s), model.service(item, s));
+                break;
+            case 3:
+            case 4:
+            case 5:
+            case 6:
+                long want = model.price(item, zone, day);
+                priced += want >= 0 ? 1 : 0;
+                check.due(where + "price", tariff.price(item, zone, day), want);
+                checkParts(where);
+                break;
+            case 7:
+                check.due(where + "least", tariff.least(item, zone, day), model.least(item, zone, day));
+                checkParts(where);
+                break;
+            case 8:
+                int edition = odd(below(6));
+                check.due(where + "compare", tariff.compare(edition), model.compare(edition));
+                break;
+            default:
+                int length = model.print();
+                check.due(where + "print", tariff.print(), length);
+                for (int i = -1; i <= length + 1; i++) {
+                    check.due(where + "at", tariff.at(i), model.at(i));
+                }
+                break;
+        }
+    }
+
+    private void checkParts(String where) {
+        for (int i = -1; i <= 14; i++) {
+            for (int what = -1; what <= 3; what++) {
+                check.due(where + "explain(" + i + ", " + what + ")", tariff.explain(i, what), model.explain(i, what));
+            }
+        }
+    }
+
+    /** NONE when both answer the same, which no item answers. */
+    private int makeItem() {
+        int kind = odd(below(4));
+        int weight = odd(1 + below(12));
+        int width = odd(1 + below(5));
+        int height = odd(1 + below(5));
+        int depth = odd(1 + below(5));
+        int got = tariff.item(kind, weight, width, height, depth);
+        return got == model.item(kind, weight, width, height, depth) ? PostTariff.NONE : got;
+    }
+
+    private void readText(String where) {
+        String text = below(30) == 0 ? "" : text();
+        if (below(4) == 0) {
+            text = spoiled(text);
+        }
+        for (int i = 0; i < text.length(); i++) {
+            tariff.sign(text.charAt(i));
+            model.sign(text.charAt(i));
+        }
+        int want = model.read();
+        read++;
+        faultless += want >= 0 || want == PostTariff.ROOM ? 1 : 0;
+        check.due(where + "read() of " + text, tariff.read(), want);
+    }
+
+    private String text() {
+        StringBuilder text = new StringBuilder();
+        int kinds = 1 + below(3);
+        for (int k = 0; k < kinds; k++) {
+            text.append(k > 0 ? ";" : "").append('K').append(number(below(5) == 0 ? below(10) : (k * 2 + below(2)) % 4));
+            addKind(text);
+        }
+        return text.toString();
+    }
+
+    private void addKind(StringBuilder text) {
+        int weight = 0;
+        int steps = below(60) == 0 ? 0 : below(40) == 0 ? 10 + below(2) : 1 + below(3);
+        for (int i = 0; i < steps; i++) {
+            weight += (below(60) == 0 ? 0 : 1) + below(8);
+            row(text, 'S', weight, below(300));
+        }
+        for (int z = 0; z < 3; z++) {
+            if (below(4) > 0) {
+                row(text, 'Z', below(60) == 0 ? below(4) : z, below(60) == 0 ? 999 + below(3) : below(120));
+            }
+        }
+        int services = below(30) == 0 ? 9 : below(5);
+        for (int s = 0; s < services; s++) {
+            row(text, 'X', below(30) == 0 ? below(11) : s, below(99));
+        }
+        int pairs = below(30) == 0 ? 12 : services > 1 && below(3) == 0 ? 1 + below(2) : 0;
+        for (int i = 0; i < pairs; i++) {
+            boolean any = services < 2 || below(4) == 0;
+            int s = below(any ? services + 1 : services);
+            row(text, 'E', s, any ? below(services + 1) : (s + 1 + below(services - 1)) % services);
+        }
+        addLimits(text);
+    }
+
+    private void addLimits(StringBuilder text) {
+        if (below(5) == 0) {
+            row(text, 'D', (below(20) == 0 ? 0 : 1) + below(6), 1 + below(6), 1 + below(6));
+        }
+        if (below(3) == 0) {
+            row(text, 'M', below(20) == 0 ? 0 : 1 + below(9));
+        }
+        if (below(4) == 0) {
+            int first = below(4);
+            row(text, 'F', first, below(20) == 0 ? below(4) : first + below(8));
+        }
+        if (below(3) == 0) {
+            row(text, 'R', below(20) == 0 ? below(1003) : 1 + below(50));
+        }
+        if (below(20) == 0) {
+            row(text, "DMFR".charAt(below(4)), 1);
+        }
+    }
+
+    private void row(StringBuilder text, char letter, int... numbers) {
+        text.append(';').append(letter);
+        for (int i = 0; i < numbers.length; i++) {
+            text.append(i > 0 ? " " : "").append(number(numbers[i]));
+        }
+    }
+
+    private String number(int value) {
+        return below(20) > 0 ? String.valueOf(value) : String.format("%0" + (1 + below(7)) + "d", value);
+    }
+
+    private String spoiled(String text) {
+        if (text.isEmpty()) {
+            return text;
+        }
+        StringBuilder signs = new StringBuilder(text);
+        String others = "0123456789 ;KSZXEDMFRx\u0000~";
+        int i = below(signs.length());
+        switch (below(4)) {
+            case 0:
+                signs.deleteCharAt(i);
+                break;
+            case 1:
+                signs.insert(i, others.charAt(below(others.length())));
+                break;
+            case 2:
+                signs.setCharAt(i, others.charAt(below(others.length())));
+                break;
+            default:
+                signs.setLength(i);
+                break;
+        }
+        return signs.toString();
+    }
+}
