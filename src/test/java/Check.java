@@ -1,18 +1,38 @@
 /** Counts the answers of one test that are not the ones that are due, and prints them. */
 final class Check {
     private final String name;
+    private String sentence = "";
     private int asked;
+    private int askedBefore;
     private int wrong;
 
     Check(String name) {
         this.name = name;
     }
 
+    /** From here on the answers are those that one sentence of the document asks for; each asks for some. */
+    void sentence(String words) {
+        endSentence();
+        sentence = words;
+    }
+
+    private void endSentence() {
+        if (!sentence.isEmpty() && asked == askedBefore) {
+            wrong++;
+            System.out.println(name + ": nothing is asked for: " + sentence);
+        }
+        askedBefore = asked;
+    }
+
+    private String place() {
+        return sentence.isEmpty() ? name : name + " (" + sentence + ")";
+    }
+
     void due(String call, long got, long want) {
         asked++;
         if (got != want) {
             wrong++;
-            System.out.println(name + ": " + call + " answered " + got + ", due is " + want);
+            System.out.println(place() + ": " + call + " answered " + got + ", due is " + want);
         }
     }
 
@@ -20,12 +40,13 @@ final class Check {
         asked++;
         if (!got.equals(want)) {
             wrong++;
-            System.out.println(name + ": " + call + " answered \"" + got + "\", due is \"" + want + "\"");
+            System.out.println(place() + ": " + call + " answered \"" + got + "\", due is \"" + want + "\"");
         }
     }
 
     /** Ends the test: exit code 1 if an answer was not as due, or none was asked for. */
     void end() {
+        endSentence();
         System.out.println(name + ": " + asked + " answers, " + wrong + " not as due");
         System.exit(wrong == 0 && asked > 0 ? 0 : 1);
     }

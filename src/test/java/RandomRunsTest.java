@@ -1,9 +1,11 @@
 import java.util.Random;
 
-/** Runs of calls from a written seed, so always the same ones, each answer compared with the model's. */
+/**
+ * Runs of calls from a written seed, so always the same ones, each answer compared with the model's.
+ * A run ends before the 513th call of its object, whose answer is free.
+ */
 public final class RandomRunsTest {
-    private static final int RUNS = 20000;
-    private static final int CALLS = 60;
+    private static final int RUNS = 30000;
     private static final int[] ODD = {-1, 0, 1, 9, 10, 11, 13, 99, 100, 1000, 1001, 100000, 100001, 9999999, 10000000,
         Integer.MIN_VALUE, Integer.MAX_VALUE};
 
@@ -11,6 +13,7 @@ public final class RandomRunsTest {
     private final Random random = new Random(20261119);
     private PostTariff tariff;
     private Model model;
+    private int left;
     private int read;
     private int faultless;
     private int priced;
@@ -23,22 +26,30 @@ public final class RandomRunsTest {
         System.out.println("texts read: " + test.read + ", faultless: " + test.faultless + ", priced: " + test.priced);
         test.check.due("enough texts are faultless", test.faultless > test.read / 5 ? 1 : 0, 1);
         test.check.due("enough texts are faulty", test.faultless < test.read * 4 / 5 ? 1 : 0, 1);
-        test.check.due("enough prices are told", test.priced > RUNS ? 1 : 0, 1);
+        test.check.due("enough prices are told", test.priced > RUNS / 2 ? 1 : 0, 1);
         test.check.end();
     }
 
     private void run(int run) {
         tariff = new PostTariff();
         model = new Model();
-        for (int i = 0; i < 1 + random.nextInt(6); i++) {
-            makeItem();
+        left = Run.MOST_CALLS;
+        int items = 1 + below(6);
+        for (int i = 0; i < items; i++) {
+            makeItem("run " + run + ", first: ");
         }
         if (below(20) > 0) {
             readText("run " + run + ", first: ");
         }
-        for (int i = 0; i < CALLS; i++) {
-            call("run " + run + ", call " + i + ": ");
+        for (int i = 0; left > 0 && i < Run.MOST_CALLS; i++) {
+            call("run " + run + ", step " + i + ": ");
         }
+    }
+
+    /** Whether so many calls more may be made; if not, the run is at its end. */
+    private boolean mayCall(int calls) {
+        left = calls <= left ? left - calls : -1;
+        return left >= 0;
     }
 
     private int below(int bound) {
@@ -55,65 +66,95 @@ public final class RandomRunsTest {
         long day = below(30) == 0 ? below(2) == 0 ? Long.MIN_VALUE : Long.MAX_VALUE : odd(below(8));
         switch (below(10)) {
             case 0:
-                readText(where);
+                if (below(4) == 0) {
+                    readText(where);
+                }
                 break;
             case 1:
-                check.due(where + "item", makeItem(), PostTariff.NONE);
+                makeItem(where);
                 break;
             case 2:
                 int s = odd(below(4));
-                check.due(where + "service", tariff.service(item, s), model.service(item, s));
+                if (mayCall(1)) {
+                    check.due(where + "service", tariff.service(item, s), model.service(item, s));
+                }
                 break;
             case 3:
             case 4:
             case 5:
             case 6:
-                long want = model.price(item, zone, day);
-                priced += want >= 0 ? 1 : 0;
-                check.due(where + "price", tariff.price(item, zone, day), want);
-                checkParts(where);
+                if (mayCall(1)) {
+                    long want = model.price(item, zone, day);
+                    priced += want >= 0 ? 1 : 0;
+                    check.due(where + "price", tariff.price(item, zone, day), want);
+                    checkParts(where);
+                }
                 break;
             case 7:
-                check.due(where + "least", tariff.least(item, zone, day), model.least(item, zone, day));
-                checkParts(where);
+                if (mayCall(1)) {
+                    check.due(where + "least", tariff.least(item, zone, day), model.least(item, zone, day));
+                    checkParts(where);
+                }
                 break;
             case 8:
                 int edition = odd(below(6));
-                check.due(where + "compare", tariff.compare(edition), model.compare(edition));
-                break;
-            default:
-                int length = model.print();
-                check.due(where + "print", tariff.print(), length);
-                for (int i = -1; i <= length + 1; i++) {
-                    check.due(where + "at", tariff.at(i), model.at(i));
+                if (mayCall(1)) {
+                    check.due(where + "compare", tariff.compare(edition), model.compare(edition));
                 }
                 break;
+            default:
+                printText(where);
+                break;
+        }
+    }
+
+    private void printText(String where) {
+        if (below(4) > 0 || !mayCall(1)) {
+            return;
+        }
+        int length = model.print();
+        check.due(where + "print", tariff.print(), length);
+        for (int i = -1; i <= length + 1 && mayCall(1); i++) {
+            check.due(where + "at(" + i + ")", tariff.at(i), model.at(i));
         }
     }
 
     private void checkParts(String where) {
-        for (int i = -1; i <= 14; i++) {
-            for (int what = -1; what <= 3; what++) {
-                check.due(where + "explain(" + i + ", " + what + ")", tariff.explain(i, what), model.explain(i, what));
+        int parts = 0;
+        while (model.explain(parts, 0) != PostTariff.NONE) {
+            parts++;
+        }
+        int i = odd(below(14));
+        int what = odd(below(3));
+        if (mayCall(1)) {
+            check.due(where + "explain(" + i + ", " + what + ")", tariff.explain(i, what), model.explain(i, what));
+        }
+        for (int part = 0; part <= parts && mayCall(3); part++) {
+            for (int of = 0; of <= 2; of++) {
+                check.due(where + "explain(" + part + ", " + of + ")", tariff.explain(part, of), model.explain(part, of));
             }
         }
     }
 
-    /** NONE when both answer the same, which no item answers. */
-    private int makeItem() {
+    private void makeItem(String where) {
         int kind = odd(below(4));
         int weight = odd(1 + below(12));
         int width = odd(1 + below(5));
         int height = odd(1 + below(5));
         int depth = odd(1 + below(5));
-        int got = tariff.item(kind, weight, width, height, depth);
-        return got == model.item(kind, weight, width, height, depth) ? PostTariff.NONE : got;
+        if (mayCall(1)) {
+            check.due(where + "item", tariff.item(kind, weight, width, height, depth),
+                    model.item(kind, weight, width, height, depth));
+        }
     }
 
     private void readText(String where) {
         String text = below(30) == 0 ? "" : text();
         if (below(4) == 0) {
             text = spoiled(text);
+        }
+        if (!mayCall(text.length() + 1)) {
+            return;
         }
         for (int i = 0; i < text.length(); i++) {
             tariff.sign(text.charAt(i));

@@ -36,7 +36,7 @@ public final class SignTest {
     }
 
     /** A faultless text of 1500 signs and 90 rows. */
-    private static String longestText() {
+    static String longestText() {
         StringBuilder text = new StringBuilder();
         for (int k = 0; k < 3; k++) {
             text.append(k > 0 ? ";" : "").append(String.format("K%07d", k));
