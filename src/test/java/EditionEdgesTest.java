@@ -28,6 +28,10 @@ public final class EditionEdgesTest {
         new Run(check).fault(whole + ";", whole.length() + 1).edition("K1;S1 1").printed("K1;S1 1");
         new Run(check).fault(whole + ";", whole.length() + 1).edition(whole).printed(whole);
         new Run(check).edition("").compare(0, 0).compare(1, PostTariff.UNKNOWN).printed("");
+        String full = "K1;" + Texts.manyRows("S", 1, 10, " 1") + ";" + Texts.manyRows("X", 0, 4, " 0")
+                + ";E0 1;E0 2;E0 3;E0 4;E1 2;E1 3;E1 4;E2 3;E2 4;E3 4;D1 1 1;M1;F0 0;R1";
+        new Run(check).fault(full + ";", full.length() + 1).edition(full).compare(0, 0).compare(1, PostTariff.UNKNOWN);
+        new Run(check).edition(full).fault(full + "x", full.length()).edition(full).compare(0, 0).compare(1, 0);
     }
 
     private void numberedFromZero() {
