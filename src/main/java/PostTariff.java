@@ -491,8 +491,8 @@ public final class PostTariff {
 
         /** How many rows the text has, or -1 less the place of its first fault. */
         int readInto(Edition target) {
+            target.clear();
             edition = target;
-            edition.clear();
             kind = null;
             position = 0;
             fault = NONE;

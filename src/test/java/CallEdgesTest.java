@@ -21,9 +21,11 @@ public final class CallEdgesTest {
         test.aPriceAsItsKind();
         test.aPricesNumbers();
         test.explainTellsItThen();
+        test.explainTellsNothingForNone();
         test.theKindAsWhichItIsLeast();
         test.leastsNumbers();
         test.whatExplainTellsStays();
+        test.thePriceToldLatest();
         test.theSortOfAPart();
         test.noSuchPart();
         test.dividedAndRoundedUp();
@@ -33,6 +35,7 @@ public final class CallEdgesTest {
         test.oneThatOnlyOneOfThemHas();
         test.howManyCharacters();
         test.characterOfWhatWasPrinted();
+        test.whatWasPrintedLatest();
         test.theLastCalls();
         test.check.end();
     }
@@ -253,6 +256,23 @@ public final class CallEdgesTest {
         bare.edition("K1;S1 1;Z0 0").parts("").price(0, 0, 0, 1).parts("0 1 0,1 0 0");
     }
 
+    /** For each reason for which there is no price, behind a price that explain has told. */
+    private void explainTellsNothingForNone() {
+        check.sentence("Promise 6: explain tells it then (nothing for NONE): whatever the reason");
+        Run run = new Run(check).edition("K1;S9 50;Z0 0;X0 1;X1 1;E0 1;D5 5 5;F5 9;M10;R7");
+        run.item(1, 9, 5, 4, 4, 0).item(2, 1, 1, 1, 1, 1).item(1, 1, 6, 1, 1, 2).item(1, 1, 1, 6, 1, 3).item(1, 1, 1, 1, 6, 4)
+                .item(1, 1, 1, 1, 1, 5).item(1, 1, 1, 1, 1, 6).item(1, 10, 1, 1, 1, 7).item(1, 1, 5, 5, 4, 8);
+        run.service(5, 2, 1).service(6, 0, 1).service(6, 1, 2);
+        String parts = "0 50 0,1 0 0,3 6 7";
+        for (int i = 1; i <= 8; i++) {
+            run.price(0, 0, 5, 56).parts(parts).price(i, 0, 5, PostTariff.NONE).parts("");
+        }
+        run.price(0, 0, 9, 56).parts(parts).price(0, 0, 4, PostTariff.NONE).parts("");
+        run.price(0, 0, 9, 56).parts(parts).price(0, 0, 10, PostTariff.NONE).parts("");
+        run.price(0, 0, 9, 56).parts(parts).price(0, 1, 9, PostTariff.NONE).parts("");
+        run.price(0, 0, 9, 56).parts(parts).service(0, 9, 1).parts(parts).price(0, 0, 9, PostTariff.NONE).parts("");
+    }
+
     private void theKindAsWhichItIsLeast() {
         check.sentence("Promise 7: the kind, of all, as which the item's price is least, of several the least; NONE ..");
         Run run = new Run(check).item(9, 1, 1, 1, 1, 0).read(0).least(0, 0, 0, PostTariff.NONE);
@@ -260,6 +280,10 @@ public final class CallEdgesTest {
         run.edition("K4;S1 5;Z0 0;K6;S1 5;Z0 0").least(0, 0, 0, 4);
         run.edition("K6;S1 5;Z0 0;K4;S1 5;Z0 0").least(0, 0, 0, 4);
         run.edition("K4;S1 5;Z0 0;K6;S1 4;Z0 0").least(0, 0, 0, 6);
+        Run own = new Run(check).edition("K2;S1 6;Z0 0;K4;S1 5;Z0 0;K6;S1 5;Z0 0;K8;S1 7;Z0 0");
+        for (int k = 0; k <= 9; k++) {
+            own.item(k, 1, 1, 1, 1, k).least(k, 0, 0, 4);
+        }
         StringBuilder same = new StringBuilder("K0;S2 7;Z1 0");
         for (int k = 1; k <= 9; k++) {
             same.append(";K").append(k).append(";S2 7;Z0 0").append(k == 5 ? ";F1 1" : "");
@@ -297,6 +321,19 @@ public final class CallEdgesTest {
         run.least(0, 1, 0, 2).parts("0 5 0,1 0 0").least(0, 2, 0, PostTariff.NONE).parts("0 5 0,1 0 0");
         run.least(0, 10, 0, PostTariff.OUTSIDE).least(1, 0, 0, PostTariff.UNKNOWN).parts("0 5 0,1 0 0");
         run.price(0, 1, 0, PostTariff.NONE).parts("").least(0, 0, 0, 1).parts("");
+    }
+
+    /** What each other call leaves as it is. */
+    private void thePriceToldLatest() {
+        check.sentence("Promise 8: of part i (0 the first) of the price told latest");
+        String parts = "0 30 1,1 15 7,2 3 9,3 2 10";
+        Run run = new Run(check).edition("K1;S5 10;S9 30;Z0 0;Z7 50;X9 3;X8 1;R10").item(1, 6, 1, 1, 1, 0).service(0, 9, 1);
+        run.price(0, 7, 0, 50).parts(parts).explain(0, 3, PostTariff.NONE).explain(9, 0, PostTariff.NONE).parts(parts);
+        run.item(1, 1, 1, 1, 1, 1).parts(parts).service(0, 8, 2).parts(parts).service(1, 8, 1).parts(parts);
+        run.least(1, 0, 0, 1).parts(parts).dimensional(5, 2, 3).dimensionalThrows(5, 0).parts(parts);
+        run.compare(0, 0).parts(parts).print(39).parts(parts).at(0, 'K').parts(parts);
+        run.sign('K').parts(parts).read(-2).parts(parts).edition("K1;S9 8;Z0 0;X8 1").parts(parts).read(0).parts(parts);
+        run.edition("K1;S9 8;Z0 0;X8 1").price(1, 0, 0, 9).parts("0 8 0,1 0 0,2 1 8");
     }
 
     private void theSortOfAPart() {
@@ -458,6 +495,17 @@ public final class CallEdgesTest {
         run.edition("K7;S1 1").signs("K1;S23 45").fault("K9", 2).signs("K1;S23 45").print(7).signs("K7;S1 1")
                 .at(7, PostTariff.NONE).at(8, PostTariff.NONE);
         run.edition("").at(6, '1').print(0).at(0, PostTariff.NONE).at(6, PostTariff.NONE).at(-1, PostTariff.NONE);
+    }
+
+    /** What each other call leaves as it is. */
+    private void whatWasPrintedLatest() {
+        check.sentence("Promise 12: of what was printed latest");
+        String text = "K1;S9 5;Z0 1";
+        Run run = new Run(check).edition(text).item(1, 1, 1, 1, 1, 0).printed(text);
+        run.item(1, 1, 1, 1, 1, 1).signs(text).service(0, 8, 1).signs(text).price(1, 0, 0, 5).parts("0 5 0,1 0 0").signs(text);
+        run.least(1, 0, 0, 1).signs(text).dimensional(5, 2, 3).dimensionalThrows(5, 0).signs(text).compare(0, 0).signs(text);
+        run.sign('K').signs(text).read(-2).signs(text).edition("K2;S2 2").signs(text).printed("K2;S2 2");
+        run.read(0).signs("K2;S2 2").print(0).signs("");
     }
 
     /** The 513th call's answer is free, so that the last ones asked for are the 511th and the 512th. */

@@ -38,7 +38,7 @@ public final class EditionEdgesTest {
         check.sentence("they are numbered from 0");
         Run run = new Run(check).compare(0, PostTariff.UNKNOWN);
         for (int e = 0; e < 5; e++) {
-            run.compare(e, PostTariff.UNKNOWN).edition(e == 2 ? "" : Texts.manyRows("K", 0, e, ";S1 " + e)).compare(e, 0);
+            run.compare(e, PostTariff.UNKNOWN).fault("K1", 2).compare(e, PostTariff.UNKNOWN).edition(e == 2 ? "" : Texts.manyRows("K", 0, e, ";S1 " + e)).compare(e, 0);
             run.compare(-1, PostTariff.UNKNOWN).compare(e + 1, PostTariff.UNKNOWN);
         }
         run.compare(0, 5).compare(1, 5).compare(2, 5).compare(3, 5).compare(4, 0);

@@ -7,6 +7,7 @@ import java.util.TreeSet;
 
 /** The public face: its constants, constructor and methods, and no others; rule 1 of the language. */
 public final class FaceTest {
+    private static final String CONSTANT = "public static final int ";
     private static final String[] FACE = {
         "int at(int)", "int compare(int)", "int explain(int,int)", "int item(int,int,int,int,int)",
         "int least(int,int,long)", "int print()", "int read()", "int service(int,int)",
@@ -33,9 +34,14 @@ public final class FaceTest {
         check.due("methods", methods.toString(), new TreeSet<>(Arrays.asList(FACE)).toString());
         TreeSet<String> fields = new TreeSet<>();
         for (Field field : PostTariff.class.getFields()) {
-            fields.add(field.getName());
+            fields.add(field.toGenericString().replace("PostTariff.", ""));
         }
-        check.due("constants", fields.toString(), "[NONE, OUTSIDE, ROOM, STATE, UNKNOWN]");
+        check.due("constants", fields.toString(), "[" + CONSTANT + "NONE, " + CONSTANT + "OUTSIDE, " + CONSTANT + "ROOM, "
+                + CONSTANT + "STATE, " + CONSTANT + "UNKNOWN]");
+        check.due("constructors", Arrays.toString(PostTariff.class.getConstructors()), "[public PostTariff()]");
+        check.due("a class of no other", PostTariff.class.getSuperclass().getName(), "java.lang.Object");
+        check.due("interfaces", PostTariff.class.getInterfaces().length, 0);
+        check.due("package", PostTariff.class.getPackageName(), "");
         checkHidden(check, names);
         check.end();
     }

@@ -1,3 +1,5 @@
+import java.math.BigDecimal;
+import java.math.RoundingMode;
 import java.util.ArrayList;
 import java.util.List;
 import java.util.Map;
@@ -293,6 +295,14 @@ final class Model {
 
     int explain(int i, int what) {
         return i < 0 || i >= parts.size() || what < 0 || what > 2 ? PostTariff.NONE : parts.get(i)[what];
+    }
+
+    long dimensional(long volume, long divisor) {
+        long most = 1_000_000_000_000_000L;
+        if (Math.min(volume, divisor) < 0 || Math.max(volume, divisor) > most) {
+            return PostTariff.OUTSIDE;
+        }
+        return BigDecimal.valueOf(volume).divide(BigDecimal.valueOf(divisor), 0, RoundingMode.CEILING).longValueExact();
     }
 
     int compare(int edition) {

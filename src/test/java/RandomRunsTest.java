@@ -8,6 +8,9 @@ public final class RandomRunsTest {
     private static final int RUNS = 30000;
     private static final int[] ODD = {-1, 0, 1, 9, 10, 11, 13, 99, 100, 1000, 1001, 100000, 100001, 9999999, 10000000,
         Integer.MIN_VALUE, Integer.MAX_VALUE};
+    private static final long MOST_VOLUME = 1_000_000_000_000_000L;
+    private static final long[] ODD_VOLUMES = {0, 0, 1, -1, MOST_VOLUME - 1, MOST_VOLUME, MOST_VOLUME + 1, Long.MIN_VALUE,
+        Long.MAX_VALUE};
 
     private final Check check = new Check("RandomRunsTest");
     private final Random random = new Random(20261119);
@@ -64,11 +67,14 @@ public final class RandomRunsTest {
         int item = odd(below(4));
         int zone = odd(below(3));
         long day = below(30) == 0 ? below(2) == 0 ? Long.MIN_VALUE : Long.MAX_VALUE : odd(below(8));
-        switch (below(10)) {
+        switch (below(11)) {
             case 0:
                 if (below(4) == 0) {
                     readText(where);
                 }
+                break;
+            case 9:
+                divide(where, volume(), volume());
                 break;
             case 1:
                 makeItem(where);
@@ -105,6 +111,26 @@ public final class RandomRunsTest {
             default:
                 printText(where);
                 break;
+        }
+    }
+
+    /** Of any length, and seldom 0, below it, or above 10^15. */
+    private long volume() {
+        if (below(20) == 0) {
+            return ODD_VOLUMES[below(ODD_VOLUMES.length)];
+        }
+        return random.nextLong() >>> 14 + below(50);
+    }
+
+    private void divide(String where, long volume, long divisor) {
+        if (!mayCall(1)) {
+            return;
+        }
+        String call = where + "dimensional(" + volume + ", " + divisor + ")";
+        try {
+            check.due(call, tariff.dimensional(volume, divisor), model.dimensional(volume, divisor));
+        } catch (ArithmeticException thrown) {
+            check.due(call + " throws", divisor == 0 && volume >= 0 && volume <= MOST_VOLUME ? 1 : 0, 1);
         }
     }
 
