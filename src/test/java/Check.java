@@ -36,6 +36,10 @@ final class Check {
         }
     }
 
+    void holds(String what, boolean does) {
+        due(what, does ? 1 : 0, 1);
+    }
+
     void due(String call, String got, String want) {
         asked++;
         if (!got.equals(want)) {

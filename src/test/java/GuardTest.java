@@ -56,10 +56,6 @@ public final class GuardTest {
         test.check.end();
     }
 
-    private void holds(String what, boolean does) {
-        check.due(what, does ? 1 : 0, 1);
-    }
-
     /** What the lines around a tree have tested, as "i >= 0": it holds where the tree stands. */
     private static Set<String> known(TreePath path) {
         Set<String> known = new HashSet<>();
@@ -159,9 +155,9 @@ public final class GuardTest {
             String index = access.getIndex().toString();
             String row = access.getExpression().toString();
             Set<String> known = known(path);
-            holds(index + " >= 0 at " + source.at(path), known.contains(index + " >= 0"));
-            holds(index + " < " + row + ".length at " + source.at(path), known.contains(index + " < " + row + ".length"));
-            holds(row + " is there at " + source.at(path), isThere(new TreePath(path, access.getExpression())));
+            check.holds(index + " >= 0 at " + source.at(path), known.contains(index + " >= 0"));
+            check.holds(index + " < " + row + ".length at " + source.at(path), known.contains(index + " < " + row + ".length"));
+            check.holds(row + " is there at " + source.at(path), isThere(new TreePath(path, access.getExpression())));
         }
     }
 
@@ -171,7 +167,7 @@ public final class GuardTest {
             ExpressionTree divisor = path.getLeaf() instanceof BinaryTree ? ((BinaryTree) path.getLeaf()).getRightOperand()
                     : ((CompoundAssignmentTree) path.getLeaf()).getExpression();
             boolean written = divisor instanceof LiteralTree && !divisor.toString().equals("0");
-            holds(source.at(path), written || known(path).contains(divisor + " > 0"));
+            check.holds(source.at(path), written || known(path).contains(divisor + " > 0"));
         }
     }
 
@@ -179,7 +175,7 @@ public final class GuardTest {
         check.sentence("a row's length is a constant above 0");
         for (TreePath path : source.all(Kind.NEW_ARRAY)) {
             for (ExpressionTree length : ((NewArrayTree) path.getLeaf()).getDimensions()) {
-                holds("the length of " + source.at(path), isConstantAboveZero(path, length));
+                check.holds("the length of " + source.at(path), isConstantAboveZero(path, length));
             }
         }
     }
@@ -198,7 +194,7 @@ public final class GuardTest {
     private void casts() {
         check.sentence("no reference is cast");
         for (TreePath path : source.all(Kind.TYPE_CAST)) {
-            holds(source.at(path), source.typeOf(path, ((TypeCastTree) path.getLeaf()).getType()).getKind().isPrimitive());
+            check.holds(source.at(path), source.typeOf(path, ((TypeCastTree) path.getLeaf()).getType()).getKind().isPrimitive());
         }
     }
 
@@ -241,11 +237,11 @@ public final class GuardTest {
         for (TreePath path : source.all(Kind.MEMBER_SELECT)) {
             TreePath reference = referenceOf(path);
             if (reference != null) {
-                holds(reference.getLeaf() + " is there at " + source.at(path), isThere(reference));
+                check.holds(reference.getLeaf() + " is there at " + source.at(path), isThere(reference));
                 found++;
             }
         }
-        holds("references are found", found > 50);
+        check.holds("references are found", found > 50);
     }
 
     private void arguments() {
@@ -259,7 +255,7 @@ public final class GuardTest {
             List<? extends VariableElement> parameters = ((ExecutableElement) called).getParameters();
             for (int i = 0; i < arguments.size() && i < parameters.size(); i++) {
                 if (trusted.contains(parameters.get(i))) {
-                    holds(arguments.get(i) + " is there at " + source.at(path), isThere(new TreePath(path, arguments.get(i))));
+                    check.holds(arguments.get(i) + " is there at " + source.at(path), isThere(new TreePath(path, arguments.get(i))));
                 }
             }
         }
@@ -289,7 +285,7 @@ public final class GuardTest {
             boolean ofFace = one.getEnclosingElement().getModifiers().contains(Modifier.PUBLIC);
             check.due("a public method's parameter " + one, ofFace ? 1 : 0, 0);
         }
-        holds("some parameters are used without a test: " + names, !names.isEmpty());
+        check.holds("some parameters are used without a test: " + names, !names.isEmpty());
     }
 
     private void trustArguments() {

@@ -78,10 +78,6 @@ public final class LanguageTest {
         test.check.end();
     }
 
-    private void holds(String what, boolean does) {
-        check.due(what, does ? 1 : 0, 1);
-    }
-
     private void none(String what, Kind... kinds) {
         List<TreePath> found = source.all(kinds);
         check.due(what, found.isEmpty() ? "" : source.at(found.get(0)), "");
@@ -89,13 +85,13 @@ public final class LanguageTest {
 
     private void oneFileOneClass() {
         check.sentence("rule 1: one file without a package line, with one public class");
-        holds("no package", source.unit().getPackageName() == null);
+        check.holds("no package", source.unit().getPackageName() == null);
         check.due("classes outside", source.unit().getTypeDecls().size(), 1);
         ClassTree whole = (ClassTree) source.unit().getTypeDecls().get(0);
         check.due("its name", whole.getSimpleName().toString(), "PostTariff");
         for (ImportTree one : source.unit().getImports()) {
             String name = one.getQualifiedIdentifier().toString();
-            holds("import " + name, name.matches("java\\.util\\.(ArrayList|List|Arrays|Iterator|NoSuchElementException)"));
+            check.holds("import " + name, name.matches("java\\.util\\.(ArrayList|List|Arrays|Iterator|NoSuchElementException)"));
         }
     }
 
@@ -107,9 +103,9 @@ public final class LanguageTest {
             ClassTree one = (ClassTree) path.getLeaf();
             Set<Modifier> modifiers = one.getModifiers().getFlags();
             boolean outer = path.getParentPath().getLeaf() == source.unit();
-            holds("static: " + one.getSimpleName(), outer || modifiers.contains(Modifier.STATIC));
-            holds("not public: " + one.getSimpleName(), outer || !modifiers.contains(Modifier.PUBLIC));
-            holds("in a class: " + one.getSimpleName(), outer || path.getParentPath().getLeaf() instanceof ClassTree);
+            check.holds("static: " + one.getSimpleName(), outer || modifiers.contains(Modifier.STATIC));
+            check.holds("not public: " + one.getSimpleName(), outer || !modifiers.contains(Modifier.PUBLIC));
+            check.holds("in a class: " + one.getSimpleName(), outer || path.getParentPath().getLeaf() instanceof ClassTree);
         }
     }
 
@@ -118,11 +114,11 @@ public final class LanguageTest {
         for (TreePath path : source.all(Kind.VARIABLE)) {
             boolean caught = path.getParentPath().getLeaf() instanceof CatchTree;
             String type = String.valueOf(source.typeOf(path));
-            holds(type + " of " + source.at(path), caught || type.matches(TYPES));
+            check.holds(type + " of " + source.at(path), caught || type.matches(TYPES));
         }
         for (TreePath path : source.all(Kind.METHOD)) {
             String type = String.valueOf(((ExecutableElement) source.named(path)).getReturnType());
-            holds(type + " of " + source.at(path), type.equals("void") || type.matches(TYPES));
+            check.holds(type + " of " + source.at(path), type.equals("void") || type.matches(TYPES));
         }
     }
 
@@ -133,14 +129,14 @@ public final class LanguageTest {
             String name = Source.ownerOf(called) + "." + called.getSimpleName();
             // the first call of a constructor, which the compiler puts in
             boolean implied = name.equals("java.lang.Object.<init>");
-            holds(name + " in " + source.at(path), implied || Source.isOwn(Source.ownerOf(called)) || name.matches(LIBRARY));
+            check.holds(name + " in " + source.at(path), implied || Source.isOwn(Source.ownerOf(called)) || name.matches(LIBRARY));
         }
         for (TreePath path : source.all(Kind.IDENTIFIER, Kind.MEMBER_SELECT)) {
             Element named = source.named(path);
             if (named instanceof VariableElement && named.getKind() == ElementKind.FIELD) {
                 boolean rowsLength = named.getSimpleName().contentEquals("length") && named.getEnclosingElement() == null
                         || !Source.ownerOf(named).contains(".") && !Source.isOwn(Source.ownerOf(named));
-                holds("own field " + source.at(path), rowsLength || Source.isOwn(Source.ownerOf(named)));
+                check.holds("own field " + source.at(path), rowsLength || Source.isOwn(Source.ownerOf(named)));
             }
         }
     }
@@ -150,11 +146,11 @@ public final class LanguageTest {
         for (TreePath path : source.all(Kind.VARIABLE)) {
             VariableElement variable = (VariableElement) source.named(path);
             if (variable.getKind() == ElementKind.FIELD && variable.getModifiers().contains(Modifier.STATIC)) {
-                holds("a constant: " + source.at(path), variable.getConstantValue() != null);
+                check.holds("a constant: " + source.at(path), variable.getConstantValue() != null);
             }
         }
         for (TreePath path : source.all(Kind.BLOCK)) {
-            holds("no static block", !Source.isStaticBlock(path.getLeaf()));
+            check.holds("no static block", !Source.isStaticBlock(path.getLeaf()));
         }
     }
 
@@ -165,20 +161,20 @@ public final class LanguageTest {
         List<TreePath> tries = source.all(Kind.TRY);
         for (TreePath path : source.all(Kind.THROW)) {
             ExpressionTree thrown = ((ThrowTree) path.getLeaf()).getExpression();
-            holds("throw new: " + source.at(path), thrown instanceof NewClassTree && isWrittenOut((NewClassTree) thrown));
-            holds("in no constructor: " + source.at(path), !Source.nameOfMethod(path).equals("<init>"));
+            check.holds("throw new: " + source.at(path), thrown instanceof NewClassTree && isWrittenOut((NewClassTree) thrown));
+            check.holds("in no constructor: " + source.at(path), !Source.nameOfMethod(path).equals("<init>"));
             for (TreePath one : tries) {
-                holds("in no method that catches: " + source.at(path),
+                check.holds("in no method that catches: " + source.at(path),
                         Source.methodOf(one).getLeaf() != Source.methodOf(path).getLeaf());
             }
         }
         for (TreePath path : tries) {
             TryTree one = (TryTree) path.getLeaf();
-            holds("no finally, no resources", one.getFinallyBlock() == null && one.getResources().isEmpty());
+            check.holds("no finally, no resources", one.getFinallyBlock() == null && one.getResources().isEmpty());
             for (CatchTree caught : one.getCatches()) {
                 String type = caught.getParameter().getType().toString();
                 // what the machine throws is none of these, or below one: so these two are not caught, too
-                holds("catch " + type, type.matches(EXCEPTIONS) && !type.matches("RuntimeException|IndexOutOf.*"));
+                check.holds("catch " + type, type.matches(EXCEPTIONS) && !type.matches("RuntimeException|IndexOutOf.*"));
             }
         }
     }
@@ -194,11 +190,11 @@ public final class LanguageTest {
         for (TreePath path : source.all(Kind.EQUAL_TO, Kind.NOT_EQUAL_TO)) {
             BinaryTree both = (BinaryTree) path.getLeaf();
             String types = source.typeOf(path, both.getLeftOperand()) + " and " + source.typeOf(path, both.getRightOperand());
-            holds(types + " in " + source.at(path), !types.matches(".*java\\.lang\\.(String|Integer).*"));
+            check.holds(types + " in " + source.at(path), !types.matches(".*java\\.lang\\.(String|Integer).*"));
         }
         for (TreePath path : source.all(Kind.METHOD)) {
             String name = ((MethodTree) path.getLeaf()).getName().toString();
-            holds("a method " + name, !name.matches("equals|hashCode|toString|clone|finalize"));
+            check.holds("a method " + name, !name.matches("equals|hashCode|toString|clone|finalize"));
         }
         none("no instanceof, so that no cast needs it", Kind.INSTANCE_OF);
     }
@@ -244,9 +240,9 @@ public final class LanguageTest {
         for (Element method : graph.keySet()) {
             int depth = depth(graph, method, new ArrayDeque<>());
             deepest = Math.max(deepest, depth);
-            holds(method + " goes " + depth + " deep", depth <= MOST_DEPTH);
+            check.holds(method + " goes " + depth + " deep", depth <= MOST_DEPTH);
         }
-        holds("calls are found", deepest > 3);
+        check.holds("calls are found", deepest > 3);
     }
 
     private static int depth(Map<Element, Set<Element>> graph, Element method, Deque<Element> open) {
@@ -271,10 +267,10 @@ public final class LanguageTest {
                     : loop instanceof WhileLoopTree ? ((WhileLoopTree) loop).getCondition()
                     : ((DoWhileLoopTree) loop).getCondition();
             // one side of the comparison is a counter that the loop itself steps
-            holds("a counter against a bound: " + source.at(path), condition != null && !condition.toString().contains("||")
+            check.holds("a counter against a bound: " + source.at(path), condition != null && !condition.toString().contains("||")
                     && stepsCounterOf(loop.toString(), condition.toString()));
         }
-        holds("loops are found", loops.size() > 3);
+        check.holds("loops are found", loops.size() > 3);
     }
 
     private static boolean stepsCounterOf(String loop, String condition) {
@@ -291,11 +287,11 @@ public final class LanguageTest {
     private void operators() {
         check.sentence("rule 10: texts are not joined by +; switch is on numbers, without patterns");
         for (TreePath path : source.all(Kind.PLUS, Kind.PLUS_ASSIGNMENT)) {
-            holds(source.at(path), !String.valueOf(source.typeOf(path)).contains("String"));
+            check.holds(source.at(path), !String.valueOf(source.typeOf(path)).contains("String"));
         }
         none("no switch that answers", Kind.SWITCH_EXPRESSION);
         for (TreePath path : source.all(Kind.DOUBLE_LITERAL, Kind.FLOAT_LITERAL)) {
-            holds("no double: " + source.at(path), false);
+            check.holds("no double: " + source.at(path), false);
         }
     }
 
@@ -303,18 +299,18 @@ public final class LanguageTest {
         check.sentence("rule 11: parameters, lines, classes and fields");
         for (TreePath path : source.all(Kind.METHOD)) {
             MethodTree method = (MethodTree) path.getLeaf();
-            holds("parameters of " + method.getName(), method.getParameters().size() <= MOST_PARAMETERS);
-            holds("lines of " + method.getName(), source.lines(path) <= MOST_LINES);
+            check.holds("parameters of " + method.getName(), method.getParameters().size() <= MOST_PARAMETERS);
+            check.holds("lines of " + method.getName(), source.lines(path) <= MOST_LINES);
         }
         List<TreePath> classes = source.all(Kind.CLASS, Kind.RECORD, Kind.ENUM, Kind.INTERFACE);
-        holds("classes: " + classes.size(), classes.size() > 1 && classes.size() <= MOST_CLASSES);
+        check.holds("classes: " + classes.size(), classes.size() > 1 && classes.size() <= MOST_CLASSES);
         for (TreePath path : classes) {
             int fields = 0;
             for (Tree member : ((ClassTree) path.getLeaf()).getMembers()) {
                 boolean field = member instanceof VariableTree;
                 fields += field && !((VariableTree) member).getModifiers().getFlags().contains(Modifier.STATIC) ? 1 : 0;
             }
-            holds("fields of " + ((ClassTree) path.getLeaf()).getSimpleName(), fields <= MOST_FIELDS);
+            check.holds("fields of " + ((ClassTree) path.getLeaf()).getSimpleName(), fields <= MOST_FIELDS);
         }
     }
 
@@ -324,7 +320,7 @@ public final class LanguageTest {
         for (TreePath path : source.all(Kind.NEW_CLASS, Kind.NEW_ARRAY)) {
             String method = Source.nameOfMethod(path);
             boolean thrown = path.getParentPath().getLeaf() instanceof ThrowTree;
-            holds(source.at(path), thrown || method.isEmpty() || method.equals("<init>") || method.equals("item"));
+            check.holds(source.at(path), thrown || method.isEmpty() || method.equals("<init>") || method.equals("item"));
         }
     }
 
@@ -332,14 +328,14 @@ public final class LanguageTest {
         check.sentence("rule 4: the file's signs are 1 to 127");
         for (byte sign : Files.readAllBytes(Paths.get(Source.FILE))) {
             if (sign <= 0) {
-                holds("a sign " + sign, false);
+                check.holds("a sign " + sign, false);
             }
         }
-        holds("the file is there", Files.size(Paths.get(Source.FILE)) > 0);
+        check.holds("the file is there", Files.size(Paths.get(Source.FILE)) > 0);
         List<String> literals = new ArrayList<>();
         for (TreePath path : source.all(Kind.STRING_LITERAL)) {
             literals.add(path.getLeaf().toString());
         }
-        holds("few texts: " + literals, literals.size() <= 2);
+        check.holds("few texts: " + literals, literals.size() <= 2);
     }
 }

@@ -44,9 +44,9 @@ public final class ReadmeTest {
             blocks.add(matcher.group(1));
         }
         check.sentence("README.md shows runs of calls, and each method in them");
-        check.due("runs", blocks.size() > 0 ? 1 : 0, 1);
+        check.holds("runs", blocks.size() > 0);
         for (String method : FACE) {
-            check.due("it calls " + method, String.join("", blocks).contains("post." + method + "(") ? 1 : 0, 1);
+            check.holds("it calls " + method, String.join("", blocks).contains("post." + method + "("));
         }
         checkEachCallHasItsAnswer(blocks);
         compareAnswers(blocks);
@@ -64,7 +64,7 @@ public final class ReadmeTest {
             check.due("an answer of " + line, ANSWERED.matcher(line).matches() ? 1 : 0, asks ? 1 : 0);
             answers += asks ? 1 : 0;
         }
-        check.due("enough answers", answers >= LEAST_ANSWERS ? 1 : 0, 1);
+        check.holds("enough answers", answers >= LEAST_ANSWERS);
     }
 
     private void compareAnswers(List<String> blocks) throws Exception {

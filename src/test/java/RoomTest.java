@@ -37,8 +37,8 @@ public final class RoomTest {
         count(tariff);
         check.due("objects that calls made", objects - objectsBefore, MOST_ITEMS);
         check.due("fields of these", elements - elementsBefore, MOST_ITEMS * FIELDS_OF_AN_ITEM);
-        check.due("few objects: " + objects, objects <= MOST_OBJECTS ? 1 : 0, 1);
-        check.due("few elements: " + elements, elements <= MOST_ELEMENTS ? 1 : 0, 1);
+        check.holds("few objects: " + objects, objects <= MOST_OBJECTS);
+        check.holds("few elements: " + elements, elements <= MOST_ELEMENTS);
     }
 
     /** More items, editions and signs than there is room for, and each other call. */

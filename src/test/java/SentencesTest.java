@@ -71,7 +71,7 @@ public final class SentencesTest {
         }
         for (String test : line.split(", ")) {
             named.add(test);
-            check.due(test + " of: " + sentence, isThere(test) ? 1 : 0, 1);
+            check.holds(test + " of: " + sentence, isThere(test));
         }
     }
 
